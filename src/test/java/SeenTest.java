@@ -46,6 +46,10 @@ public final class SeenTest {
         CHECK.due("gap(): touch 0", x.gap(), 1);
         x.glove(0, true);
         CHECK.due("gap() in gloves", x.gap(), 15);
+        RubbedColours ten = Check.houseOf("c2 1;p60,0;p0,60;t0 1,0 1,0 1,0 1,0 1,0 1,0 1,0 1,0 1,0 1;");
+        CHECK.due("gap() of ten touches", ten.gap(), 2047);
+        ten.see(0, 0, ten.shows(0, 0, 10));
+        CHECK.due("gap() of ten like ones: none was left out", ten.gap(), 1024);
         RubbedColours none = Check.houseOf("c2 1;p60,0;");
         CHECK.due("gap() of no day", none.gap(), 1);
         none.see(0, 0, 59);

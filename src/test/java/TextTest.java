@@ -207,5 +207,9 @@ public final class TextTest {
         CHECK.due("no coats", x.told(2), 0);
         CHECK.due("no gloves", x.told(5), 0);
         CHECK.due("parts(0, 0)", x.parts(0, 0), Check.UNKNOWN);
+        Check.feedAll(x, "c2 1;p60,0;h0;");
+        CHECK.due("house() with a dog", x.house() + 10 * x.told(6), 11);
+        Check.feedAll(x, "c2 1;p60,0;");
+        CHECK.due("house() without", x.house() + 10 * x.told(6), 1);
     }
 }

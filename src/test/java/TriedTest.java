@@ -102,6 +102,9 @@ public final class TriedTest {
         x.glove(1, true);
         CHECK.due("came past gloves", x.came(2, 0, 15, 1, 45, -1), Check.NONE);
         x.glove(1, false);
+        RubbedColours later = Check.houseOf("c2 30;p60,0;p60,0;p0,60;g0;");
+        CHECK.due("came by 1 and 2", later.came(2, 0, 30, 1, 30, 0), 12);
+        CHECK.due("came by 1 and 2, rows", later.came(2, 0, 30, 1, 30, -2), 1);
         RubbedColours chain = Check.houseOf(CHAIN);
         CHECK.due("came in 3", chain.came(3, 0, 8, 1, 52, -1), 3);
         CHECK.due("came in 3 the 0th", chain.came(3, 0, 8, 1, 52, 0), 1);
@@ -163,6 +166,8 @@ public final class TriedTest {
         RubbedColours two = Check.houseOf("c2 30;p60,0;p0,60;p0,60;t0 2,1 2,0 2;");
         CHECK.due("both must be left out, how many", two.leftOut(2, 0, 0, 0), 2);
         CHECK.due("both must be left out", two.leftOut(2, 0, 0, 1), 5);
+        two.glove(0, true);
+        CHECK.due("nothing must be, in gloves", two.leftOut(2, 0, 0, 0), 0);
         RubbedColours none = Check.houseOf(SWAP);
         CHECK.due("no day, enough", none.leftOut(0, 0, 1, 1), 0);
         CHECK.due("no day, too much", none.leftOut(0, 0, 0, 1), Check.NONE);
