@@ -232,7 +232,7 @@ public final class RubbedColours {
         if (!house.hasCell(a, c) || !house.hasColour(d) || c == d) {
             return UNKNOWN;
         }
-        if (!isAmount(v) || !isAmount(u) || i < ROWS) {
+        if (!isAmount(v) || !isAmount(u)) {
             return OUTSIDE;
         }
         rowSearch.aimAt(a, c, v, d, u);

@@ -129,7 +129,7 @@ public final class ModelTest {
         }
         int v = random.nextInt(12) == 0 ? wild() : aim[0];
         int u = random.nextInt(12) == 0 ? wild() : aim[1];
-        return call("came", a, c, v, d, u, random.nextInt(6) - 2);
+        return call("came", a, c, v, d, u, random.nextInt(8) == 0 ? wild() : random.nextInt(7) - 3);
     }
 
     private String met(int c) {

@@ -464,7 +464,7 @@ final class PlainModel {
         if (!coat(a) || !colour(c) || !colour(d) || c == d) {
             return UNKNOWN;
         }
-        if (!sixty(v) || !sixty(u) || i < -2) {
+        if (!sixty(v) || !sixty(u)) {
             return OUTSIDE;
         }
         List<int[]> pairs = new ArrayList<>();
@@ -488,7 +488,10 @@ final class PlainModel {
             }
             if (!fits.isEmpty()) {
                 List<int[]> first = fits.get(0);
-                return i == NONE ? length : i == -2 ? fits.size() : i < length ? 10 * first.get(i)[0] + first.get(i)[1] : NONE;
+                if (i == NONE || i == -2) {
+                    return i == NONE ? length : fits.size();
+                }
+                return i >= 0 && i < length ? 10 * first.get(i)[0] + first.get(i)[1] : NONE;
             }
             List<List<int[]>> longer = new ArrayList<>();
             for (List<int[]> row : rows) {

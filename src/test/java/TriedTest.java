@@ -90,6 +90,9 @@ public final class TriedTest {
         CHECK.due("came 2 the 1st", x.came(2, 0, 15, 1, 45, 1), 2);
         CHECK.due("came 2 the 2nd", x.came(2, 0, 15, 1, 45, 2), Check.NONE);
         CHECK.due("came 2 the greatest", x.came(2, 0, 15, 1, 45, Integer.MAX_VALUE), Check.NONE);
+        CHECK.due("came 2, i = -3", x.came(2, 0, 15, 1, 45, -3), Check.NONE);
+        CHECK.due("came 2, the least i", x.came(2, 0, 15, 1, 45, Integer.MIN_VALUE), Check.NONE);
+        CHECK.due("came never, i = -3", x.came(2, 0, 60, 1, 60, -3), Check.NONE);
         CHECK.due("came, colours turned", x.came(2, 1, 45, 0, 15, -2), 3);
         CHECK.due("came never", x.came(2, 0, 60, 1, 60, -1), Check.NONE);
         CHECK.due("came never, rows", x.came(2, 0, 60, 1, 60, -2), Check.NONE);
@@ -116,7 +119,7 @@ public final class TriedTest {
         for (int[] u : unknown) {
             CHECK.due("came unknown", x.came(u[0], u[1], u[2], u[3], u[4], u[5]), Check.UNKNOWN);
         }
-        int[][] outside = {{0, 0, -1, 1, 0, 0}, {0, 0, 61, 1, 0, 0}, {0, 0, 0, 1, -1, 0}, {0, 0, 0, 1, 61, 0}, {0, 0, 60, 1, 0, -3}};
+        int[][] outside = {{0, 0, -1, 1, 0, 0}, {0, 0, 61, 1, 0, 0}, {0, 0, 0, 1, -1, 0}, {0, 0, 0, 1, 61, 0}};
         for (int[] o : outside) {
             CHECK.due("came outside", x.came(o[0], o[1], o[2], o[3], o[4], o[5]), Check.OUTSIDE);
         }
@@ -127,6 +130,7 @@ public final class TriedTest {
         CHECK.due("came in 0", x.came(0, 0, 60, 1, 0, -1), 0);
         CHECK.due("came in 0 rows: the empty one", x.came(0, 0, 60, 1, 0, -2), 1);
         CHECK.due("came in 0 the 0th", x.came(0, 0, 60, 1, 0, 0), Check.NONE);
+        CHECK.due("came in 0, i = -3", x.came(0, 0, 60, 1, 0, -3), Check.NONE);
         RubbedColours one = Check.houseOf("c2 1;p60,0;");
         CHECK.due("came of one coat", one.came(0, 0, 59, 1, 1, -1), Check.NONE);
     }
