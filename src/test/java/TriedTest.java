@@ -242,6 +242,7 @@ public final class TriedTest {
     private static void rain() {
         RubbedColours x = Check.houseOf("c2 1;p60,0;p60,0;p60,0;p60,0;p60,0;p60,0;");
         CHECK.due("rain of six, cut", x.rain(0, 59, 33), 1291467);
+        CHECK.due("rain of six, cut for each: at the end alone it were 1 more", x.rain(0, 59, 99), 941480148);
         CHECK.due("rain(0, 60, 33): nobody", x.rain(0, 60, 33), 1000000000);
         CHECK.due("rain(0, 0, 0)", x.rain(0, 0, 0), 0);
         CHECK.due("rain(0, 0, 100)", x.rain(0, 0, 100), 1000000000);
