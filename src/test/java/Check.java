@@ -22,6 +22,14 @@ final class Check {
         due(what, is ? 1 : 0, 1);
     }
 
+    int asked() {
+        return asked;
+    }
+
+    boolean passed() {
+        return wrong == 0;
+    }
+
     void end() {
         System.out.println(name + ": " + (asked - wrong) + " of " + asked + " answers are as due");
         if (wrong != 0 || asked == 0) {
