@@ -660,9 +660,9 @@ public final class EdgesOfTextTest {
 
     @Edge(promise = 3, says = "THE TEXT (it is empty then, with a FAULT, too) becomes THE HOUSE")
     static void nothingOfTheOldHouseStays(Check check) {
-        RubbedColours x = Check.houseOf("c5 30;" + "p12,12,12,12,12;".repeat(6) + "g0;h1;t0 1,2 3;");
+        RubbedColours x = Check.houseOf("c5 30;p20,20,20,0,0;p20,20,0,20,0;" + "p12,12,12,12,12;".repeat(4) + "g0;h1;t1 5,2 3;");
         x.touch(2, 3);
-        Check.feedAll(x, "c2 7;p60,0;p0,60;");
+        Check.feedAll(x, "c2 7;p60,0;p60,0;");
         check.due("house()", x.house(), 2);
         int[] due = {2, 7, 2, 0, 0, 0, 0, 0, 0, 0, 0, 0};
         for (int what = 0; what < due.length; what++) {
@@ -671,8 +671,10 @@ public final class EdgesOfTextTest {
         check.due("parts(0, 0)", x.parts(0, 0), 60);
         check.due("parts(0, 2)", x.parts(0, 2), Check.UNKNOWN);
         check.due("parts(2, 0)", x.parts(2, 0), Check.UNKNOWN);
+        check.due("gives(1, 0)", x.gives(1, 0), 7);
         check.due("planned(0)", x.planned(0), Check.UNKNOWN);
-        check.due("alike(0, 1)", x.alike(0, 1), Check.NONE);
+        check.due("alike(0, 1)", x.alike(0, 1), 0);
+        check.due("touch(0, 1)", x.touch(0, 1), 0);
     }
 
     @Edge(promise = 3, says = "'g' A ';' (COAT A told ahead wears GLOVES at first;")
