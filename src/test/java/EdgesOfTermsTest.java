@@ -243,10 +243,8 @@ public final class EdgesOfTermsTest {
 
     private static RubbedColours fullOfNotes() {
         RubbedColours x = Twins.inFullSwing();
-        while (x.told(9) < 8) {
+        for (int n = 0; n < 15; n++) {
             x.see(0, 0, 30);
-        }
-        while (x.told(10) < 15) {
             x.write(0, 0, 30);
         }
         return x;
