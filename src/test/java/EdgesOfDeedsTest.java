@@ -306,11 +306,9 @@ public final class EdgesOfDeedsTest {
     static void aDrawOfTwoCoatsLessOneIsSpentToo(Check check) {
         RubbedColours x = Check.houseOf(TWO);
         Draws draws = new Draws(0);
-        int steps = 0;
-        while (steps < 99) {
+        for (int step = 0; step < 99; step++) {
             draws.of(2);
             draws.of(1);
-            steps++;
             if (draws.of(9) == 0) {
                 draws.of(2);
             }
