@@ -518,15 +518,16 @@ public final class EdgesOfTriedTest {
 
     @Edge(promise = 23, says = "REST: the fewest times THE DAY (0 .. 200) behind which THE DAY changes no COAT; NONE;")
     static void aLongWayToRest(Check check) {
-        RubbedColours x = Check.houseOf("c5 1;p0,0,8,52,0;p30,27,0,3,0;p47,0,0,13,0;p0,0,60,0,0;p0,0,0,0,60;p0,45,0,0,15;t5 1,1 3,2 1,0 2,1 4;");
-        check.due("rest(-1, 0)", x.rest(-1, 0), 131);
+        // the longest way that a search found: no house is known that could show the bound itself
+        RubbedColours x = Check.houseOf("c5 1;p15,14,11,12,8;p60,0,0,0,0;p0,57,0,0,3;p0,0,60,0,0;p0,0,0,60,0;p0,0,0,0,60;t0 1,0 4,5 0,2 0,0 3;");
+        check.due("rest(-1, 0)", x.rest(-1, 0), 154);
         int atRest = x.rest(0, 0);
-        for (int day = 1; day <= 130; day++) {
+        for (int day = 1; day <= 153; day++) {
             x.day();
         }
-        check.due("behind 130 days one more", x.rest(-1, 0), 1);
+        check.due("behind 153 days one more", x.rest(-1, 0), 1);
         x.day();
-        check.due("behind 131 days", x.rest(-1, 0), 0);
+        check.due("behind 154 days", x.rest(-1, 0), 0);
         check.due("parts(0, 0) then", x.parts(0, 0), atRest);
     }
 
