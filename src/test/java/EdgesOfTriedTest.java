@@ -220,6 +220,21 @@ public final class EdgesOfTriedTest {
         check.due("in gloves, as it is", x.came(2, 0, 0, 1, 60, -1), 0);
     }
 
+    @Edge(promise = 19, says = "CAME: the fewest TOUCHES (0 .. 3; any two COATS, GLOVES as they are) by which a COAT has v parts (0 .. 60) of a COLOUR and u of another one:")
+    static void cameToTheLesserCoatOfATouch(Check check) {
+        RubbedColours x = Check.houseOf("c2 30;p0,60;p0,60;p0,60;p60,0;");
+        check.due("coat 0 by one", x.came(0, 0, 30, 1, 30, -1), 1);
+        check.due("coat 0 by one, touch 0", x.came(0, 0, 30, 1, 30, 0), 3);
+        check.due("coat 2 by one, touch 0", x.came(2, 0, 30, 1, 30, 0), 23);
+        // 30 go from 3 to 1 or to 2, then 15 on to the other one from it or from 3; both who have 15 give 8
+        check.due("coat 0 by three", x.came(0, 0, 8, 1, 52, -1), 3);
+        check.due("rows: 13 and 23, each with 12 or the other, then either of two", x.came(0, 0, 8, 1, 52, -2), 8);
+        int[] due = {13, 12, 1};
+        for (int i = 0; i < due.length; i++) {
+            check.due("the first row, touch " + i, x.came(0, 0, 8, 1, 52, i), due[i]);
+        }
+    }
+
     @Edge(promise = 19, says = "how many; rows of so many by which it has: how many;")
     static void rowsOfTheFewestAlone(Check check) {
         RubbedColours x = Check.houseOf("c2 30;p60,0;p0,60;p0,60;");
